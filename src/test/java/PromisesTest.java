@@ -42,6 +42,7 @@ public final class PromisesTest {
         promise26();
         promise27and28();
         promise29();
+        allAtTheirMost();
         DUE.finish();
     }
 
@@ -197,6 +198,9 @@ public final class PromisesTest {
         x.tear(0);
         due("7 not there", x.anew(0), 0);
         due("7 no parts", x.byteOf(0, 2), 0);
+        due("7 no parts", x.byteOf(0, 0), 0);
+        x.anew(0);
+        due("7 no parts in any byte", bytes(x, 0), 0);
         due("7 bad", x.anew(1), BAD);
     }
 
@@ -680,6 +684,9 @@ public final class PromisesTest {
         y.build(3);
         due("19 two parts", y.best(3), 2);
         due("19 least bits, not fewest", y.asked(), 0b011);
+        y.build(4);
+        due("19 nothing to be had", y.best(3), 0);
+        due("19 no time is the least", y.asked(), 0);
     }
 
     private static void promise19Spent() {
@@ -754,6 +761,13 @@ public final class PromisesTest {
         due("20 behind one that fell in this run", x.run(0), 1);
         x.pick(0);
         due("20 an empty pick", x.run(0b11111), 0);
+        x.build(255);
+        x.pick(100);
+        due("20 each that fell keeps back what needs it", x.run(0b11001), 2);
+        x.build(255);
+        x.pick(100);
+        due("20 two that fell", x.run(0b01010), 4);
+        due("20 behind the first", x.was(2, 4), NONE);
     }
 
     private static void promise21() {
@@ -790,6 +804,11 @@ public final class PromisesTest {
         due("21 which", x.asked(), 0b0011);
         x.build(0b1111);
         due("21 in the present one alone", x.suspects(), 0);
+        x.verdict(0, true);
+        x.verdict(1, false);
+        x.verdict(2, false);
+        due("21 two that passed", x.suspects(), 1);
+        due("21 which", x.asked(), 0b0001);
     }
 
     private static void promise22() {
@@ -1026,6 +1045,38 @@ public final class PromisesTest {
         due("29 builds", x.digest(), digest(digest(17, ofTestsNow), ofBuilds));
         due("29 it changes nothing", x.digest(), digest(digest(17, ofTestsNow), ofBuilds));
         due("29 no finding", x.finding(), 0);
+    }
+
+    /** Twenty TESTS and sixty BUILDS: no row is longer than it may be, and no call goes past its end. */
+    private static void allAtTheirMost() {
+        TestPicker x = new TestPicker();
+        x.test(1, 1000, 0);
+        for (int t = 1; t < 20; t++) {
+            x.test(t < 8 ? 2 : 0, 1000, t - 1);
+        }
+        for (int t = 0; t < 20; t++) {
+            reachAll(x, t, 3L << 2 * t);
+        }
+        for (int b = 0; b < 60; b++) {
+            x.build(ALL_PARTS);
+            x.verdict(b % 12 + 8, true);
+        }
+        due("most: pick", x.pick(30000), 20);
+        due("most: time", x.about(0), 22000);
+        due("most: parts", x.about(1), 40);
+        due("most: tests", x.about(2), 0xfffff);
+        due("most: best", x.best(30000), SPENT);
+        due("most: fewest", x.fewest(), 12);
+        due("most: fewest", x.asked(), 0xfff00);
+        due("most: missed", x.missed(0xfef00), 4);
+        due("most: missed", x.missed(0xfffff), NONE);
+        due("most: badWork", x.badWork(), 1);
+        due("most: run", x.run(0xfffff), 13);
+        due("most: suspects", x.suspects(), 26);
+        due("most: which", x.asked(), 0xffffff0003L);
+        due("most: fewest", x.fewest(), SPENT);
+        due("most: verdicts", x.count(2), 72);
+        due("most: heat", x.told(18, 3), 128);
     }
 
     private static long digest(long start, long[] row) {
