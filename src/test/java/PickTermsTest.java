@@ -16,6 +16,18 @@ public final class PickTermsTest extends Sentences {
 
     // ---- THE PICK
 
+    @Says("THE PICK, for a time T in the PRESENT BUILD")
+    void pickOfThePresentBuild() {
+        TestPicker x = reaching(1, 2);
+        x.build(1);
+        x.build(2);
+        x.pick(30000);
+        due("what the PRESENT one changed", rowOf(x), row(1));
+        due("its PARTS", x.about(1), 1);
+        x.build(0);
+        due("nothing changed", x.pick(30000), 0);
+    }
+
     @Says("SEEN are no PARTS at first.")
     void seenIsEmptyAtFirst() {
         TestPicker x = reaching(1, 2);

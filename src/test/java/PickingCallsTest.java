@@ -283,6 +283,22 @@ public final class PickingCallsTest extends Sentences {
         due("no VERDICT twice", x.count(2), 5);
     }
 
+    @Says("THE PICK runs (that of the latest pick())")
+    void p20TheLatestPick() {
+        TestPicker x = tree();
+        x.pick(30000);
+        x.pick(2);
+        due("two are picked", x.about(2), 0b00011);
+        due("two run", x.run(0), 2);
+        due("no others", verdictsOf(x, 5, 0), 999);
+        x.turn(0, IDLE);
+        x.tear(1);
+        due("it stays what it was", x.run(0b00010), 2);
+        due("they run", verdictsOf(x, 5, 0), 1999);
+        due("a new one is of 4 alone", x.pick(30000), 1);
+        due("it runs", x.run(0), 1);
+    }
+
     @Says("how many VERDICTS came")
     void p20TwiceAndOfOthers() {
         TestPicker x = tree();

@@ -262,6 +262,19 @@ public final class TermsTest extends Sentences {
         due("it is not missing", x.finding(), 0);
     }
 
+    @Says(", or missing.")
+    void aMissingReach() {
+        TestPicker x = reaching(ALL_PARTS);
+        x.build(ALL_PARTS);
+        x.tear(0);
+        due("it has no bytes", x.byteOf(0, 0), FINDING);
+        due("it is not picked", x.pick(30000), 0);
+        x.verdict(0, true);
+        due("it reaches nothing", x.suspects(), 0);
+        x.anew(0);
+        due("what it was is gone", reachOf(x, 0), 0);
+    }
+
     @Says("A SLOW one's TIME counts three times in all that follows (TIME is what counts).")
     void slowTellsThreeTimes() {
         TestPicker x = new TestPicker();

@@ -390,6 +390,21 @@ public final class TestsCallsTest extends Sentences {
 
     // ---- 9 told
 
+    @Says("0 its KIND, 1 its TIME as it counts")
+    void p09KindAndTime() {
+        TestPicker x = oneOfEachKind();
+        for (int t = 0; t < 4; t++) {
+            due("KIND of " + t, x.told(t, 0), t);
+            due("TIME of " + t, x.told(t, 1), t == SLOW ? 33 : 10 + t);
+        }
+        x.turn(1, IDLE);
+        x.turn(3, SLOW);
+        due("turned IDLE", x.told(1, 0), IDLE);
+        due("turned IDLE", x.told(1, 1), 11);
+        due("turned SLOW", x.told(3, 0), SLOW);
+        due("turned SLOW", x.told(3, 1), 39);
+    }
+
     @Says("2 what it NEEDS (NONE)")
     void p09Needs() {
         TestPicker x = oneOfEachKind();
