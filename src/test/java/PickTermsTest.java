@@ -310,6 +310,21 @@ public final class PickTermsTest extends Sentences {
         due("then none", x.asked(), 0);
     }
 
+    @Says("of all sets of TESTS that may be picked so")
+    void noneOfAnEarlierSearch() {
+        TestPicker x = new TestPicker();
+        for (int t = 0; t < 12; t++) {
+            add(x, TEST, 1, 0, 1L << t);
+        }
+        x.build(ALL_PARTS);
+        due("twelve", x.best(30000), 12);
+        x.turn(11, IDLE);
+        due("one of eleven", x.best(1), 1);
+        due("the least, not the one that may not be picked now", x.asked(), 1);
+        due("eleven", x.best(30000), 11);
+        due("without it", x.asked(), 0x7ff);
+    }
+
     @Says("and whose TIMES together are not above T")
     void timesOfTheBest() {
         TestPicker x = new TestPicker();
@@ -527,6 +542,22 @@ public final class PickTermsTest extends Sentences {
         x.verdict(2, true);
         due("and in the last BUILD", x.fewest(), 2);
         due("least bits", x.asked(), 0b101);
+    }
+
+    @Says("of all sets of TESTS that are not FLAKY, not IDLE")
+    void fewestOfNoneOfAnEarlierSearch() {
+        TestPicker x = plain(12);
+        x.build(0);
+        for (int t = 0; t < 12; t++) {
+            x.verdict(t, true);
+        }
+        due("one of twelve", x.fewest(), 1);
+        x.turn(11, IDLE);
+        due("one of eleven", x.fewest(), 1);
+        due("the least", x.asked(), 1);
+        x.verdict(0, false);
+        due("one of ten", x.fewest(), 1);
+        due("the least", x.asked(), 2);
     }
 
     @Says("so that in each BUILD in which one such TEST fell one of the set fell")
